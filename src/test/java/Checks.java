@@ -1,0 +1,85 @@
+import java.util.function.IntSupplier;
+
+/** What the tests share: counting wrong answers, and programs written as text. */
+final class Checks {
+    static final boolean PLAIN = false;
+    static final boolean FUSED = true;
+    static final boolean[] BOTH = {PLAIN, FUSED};
+
+    private int wrong;
+
+    void due(String call, long got, long want) {
+        if (got != want) {
+            fail(call + " answered " + got + ", due is " + want);
+        }
+    }
+
+    void dueThrow(String call, Class<? extends RuntimeException> want, IntSupplier body) {
+        try {
+            fail(call + " answered " + body.getAsInt() + ", due is throws." + want.getSimpleName());
+        } catch (RuntimeException e) {
+            if (e.getClass() != want) {
+                fail(call + " throws " + e + ", due is throws." + want.getSimpleName());
+            }
+        }
+    }
+
+    void fail(String text) {
+        wrong++;
+        System.out.println(text);
+    }
+
+    void end() {
+        System.out.println(wrong == 0 ? "all answers are as due" : wrong + " answers are not as due");
+        if (wrong != 0) {
+            System.exit(1);
+        }
+    }
+
+    /** Compares every about from what 0 on with the numbers given. */
+    void dueAbout(String when, FusedEngine x, boolean fused, int... want) {
+        for (int what = 0; what < want.length; what++) {
+            due(when + ": about(" + fused + ", " + what + ")", x.about(fused, what), want[what]);
+        }
+    }
+
+    /** Compares the whole stack. */
+    void dueStack(String when, FusedEngine x, boolean fused, int... want) {
+        due(when + ": about(" + fused + ", 1)", x.about(fused, 1), want.length);
+        for (int k = 0; k < want.length && k < x.about(fused, 1); k++) {
+            due(when + ": stack(" + fused + ", " + k + ")", x.stack(fused, k), want[k]);
+        }
+    }
+
+    void dueBeginning(String when, FusedEngine x) {
+        for (boolean fused : BOTH) {
+            dueAbout(when, x, fused, 0, 0, 0, 0, 0, 0);
+            for (int k = 0; k < 8; k++) {
+                due(when + ": local(" + fused + ", " + k + ")", x.local(fused, k), 0);
+            }
+        }
+    }
+
+    /** Instructions between blanks, each a letter and, if it is not 0, its N: "P5 P-1 + O H". */
+    static void addAll(FusedEngine x, String text) {
+        for (String word : text.split(" ")) {
+            x.add(word.charAt(0), word.length() > 1 ? Integer.parseInt(word.substring(1)) : 0);
+        }
+    }
+
+    static FusedEngine engineOf(String text) {
+        FusedEngine x = new FusedEngine();
+        addAll(x, text);
+        return x;
+    }
+
+    static FusedEngine fusedOf(String text) {
+        FusedEngine x = engineOf(text);
+        x.fuse();
+        return x;
+    }
+
+    static String times(int count, String text) {
+        return (text + " ").repeat(count).trim();
+    }
+}
