@@ -2,6 +2,12 @@ import java.util.function.IntSupplier;
 
 /** What the tests share: counting wrong answers, and programs written as text. */
 final class Checks {
+    static final String LETTERS = "PLS+-*/<=DXOVJZCRH";
+    static final String[] ROWS = {
+        "LL", "LP", "P+", "P-", "L+", "DX", "D*", "<Z", "=Z", "SL",
+        "PS", "LL+", "LP+", "LP<Z", "LP+S", "LLL", "P=Z", "L-", "VL", "DO",
+    };
+
     static final boolean PLAIN = false;
     static final boolean FUSED = true;
     static final boolean[] BOTH = {PLAIN, FUSED};
@@ -76,6 +82,14 @@ final class Checks {
     static FusedEngine fusedOf(String text) {
         FusedEngine x = engineOf(text);
         x.fuse();
+        return x;
+    }
+
+    /** Both machines have gone as far as one call lets them. */
+    static FusedEngine ranOf(String text) {
+        FusedEngine x = fusedOf(text);
+        x.run(PLAIN, 3000);
+        x.run(FUSED, 3000);
         return x;
     }
 

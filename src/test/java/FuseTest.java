@@ -3,10 +3,6 @@ import java.util.NoSuchElementException;
 /** Promises 5 (fuse) and 6 (look), and what the terms say of rows and targets. */
 public final class FuseTest {
     private static final Checks CHECKS = new Checks();
-    private static final String[] ROWS = {
-        "LL", "LP", "P+", "P-", "L+", "DX", "D*", "<Z", "=Z", "SL",
-        "PS", "LL+", "LP+", "LP<Z", "LP+S", "LLL", "P=Z", "L-", "VL", "DO",
-    };
 
     public static void main(String[] args) {
         everyRowAlone();
@@ -41,8 +37,8 @@ public final class FuseTest {
     }
 
     private static void everyRowAlone() {
-        for (int row = 0; row < ROWS.length; row++) {
-            int length = ROWS[row].length();
+        for (int row = 0; row < Checks.ROWS.length; row++) {
+            int length = Checks.ROWS[row].length();
             int[] want = new int[length + 2];
             want[0] = -1;
             want[1] = row;
@@ -50,7 +46,7 @@ public final class FuseTest {
                 want[k + 1] = -2;
             }
             want[length + 1] = -1;
-            dueRows("R " + wordsOf(ROWS[row]) + " R", 3, want);
+            dueRows("R " + wordsOf(Checks.ROWS[row]) + " R", 3, want);
         }
         dueRows("P P", 2, -1, -1);
         dueRows("X D", 2, -1, -1);
@@ -58,11 +54,11 @@ public final class FuseTest {
     }
 
     private static void everyRowBrokenByTarget() {
-        for (int row = 0; row < ROWS.length; row++) {
-            String words = wordsOf(ROWS[row]);
+        for (int row = 0; row < Checks.ROWS.length; row++) {
+            String words = wordsOf(Checks.ROWS[row]);
             FusedEngine first = Checks.fusedOf(words + " J0");
             CHECKS.due(words + ": its first place may be a target", first.look(0, 2), row);
-            for (int k = 1; k < ROWS[row].length(); k++) {
+            for (int k = 1; k < Checks.ROWS[row].length(); k++) {
                 FusedEngine x = Checks.fusedOf(words + " J" + k);
                 if (x.look(0, 2) == row) {
                     CHECKS.fail(words + " is fused over the target " + k);

@@ -19,15 +19,8 @@ public final class LettersTest {
         CHECKS.end();
     }
 
-    private static FusedEngine ran(String text) {
-        FusedEngine x = Checks.fusedOf(text);
-        x.run(Checks.PLAIN, 3000);
-        x.run(Checks.FUSED, 3000);
-        return x;
-    }
-
     private static void leaves(String text, int... want) {
-        FusedEngine x = ran(text + " H");
+        FusedEngine x = Checks.ranOf(text + " H");
         for (boolean fused : Checks.BOTH) {
             CHECKS.due(text + ": about(" + fused + ", 4)", x.about(fused, 4), 5);
             CHECKS.dueStack(text, x, fused, want);
@@ -36,7 +29,7 @@ public final class LettersTest {
 
     /** The place where it trapped, the height then and how many instructions were done before. */
     private static void traps(String text, int trap, int place, int height, int done) {
-        FusedEngine x = ran(text);
+        FusedEngine x = Checks.ranOf(text);
         for (boolean fused : Checks.BOTH) {
             CHECKS.due(text + ": trap (" + fused + ")", x.about(fused, 4), trap);
             CHECKS.due(text + ": place (" + fused + ")", x.about(fused, 0), place);
@@ -95,7 +88,7 @@ public final class LettersTest {
         leaves("P4 P5 P6 X", 4, 6, 5);
         leaves("P5 P6 V", 5);
         leaves("P5 P6 O", 5);
-        FusedEngine x = ran("P5 P6 O O H");
+        FusedEngine x = Checks.ranOf("P5 P6 O O H");
         for (boolean fused : Checks.BOTH) {
             CHECKS.due("out(" + fused + ", 0)", x.out(fused, 0), 6);
             CHECKS.due("out(" + fused + ", 1)", x.out(fused, 1), 5);
@@ -113,13 +106,13 @@ public final class LettersTest {
 
     private static void calls() {
         // Returns come back in the order of the latest first.
-        FusedEngine x = ran("C3 P1 H C6 P2 R P3 R");
+        FusedEngine x = Checks.ranOf("C3 P1 H C6 P2 R P3 R");
         for (boolean fused : Checks.BOTH) {
             CHECKS.dueStack("calls", x, fused, 3, 2, 1);
             CHECKS.due("calls: returns", x.about(fused, 2), 0);
             CHECKS.due("calls: place", x.about(fused, 0), 2);
         }
-        FusedEngine open = ran("C2 H C4 H H");
+        FusedEngine open = Checks.ranOf("C2 H C4 H H");
         for (boolean fused : Checks.BOTH) {
             CHECKS.due("open calls", open.about(fused, 2), 2);
         }
@@ -151,7 +144,7 @@ public final class LettersTest {
         traps(full + " X P +", 2, 41, 40, 41);
         traps(full + " X P S", 2, 41, 40, 41);
         traps("C0", 2, 0, 0, 10);
-        FusedEngine x = ran("C0");
+        FusedEngine x = Checks.ranOf("C0");
         for (boolean fused : Checks.BOTH) {
             CHECKS.due("ten returns", x.about(fused, 2), 10);
         }
@@ -184,7 +177,7 @@ public final class LettersTest {
         traps("P1 P0 /", 3, 2, 2, 2);
         traps("P0 P0 /", 3, 2, 2, 2);
         traps("P0 /", 1, 1, 1, 1);
-        FusedEngine x = ran("P8 P0 /");
+        FusedEngine x = Checks.ranOf("P8 P0 /");
         for (boolean fused : Checks.BOTH) {
             CHECKS.dueStack("nothing is taken", x, fused, 8, 0);
         }

@@ -12,11 +12,6 @@ import java.util.Set;
  */
 public final class ModelTest {
     private static final Checks CHECKS = new Checks();
-    private static final String LETTERS = "PLS+-*/<=DXOVJZCRH";
-    private static final String[] ROWS = {
-        "LL", "LP", "P+", "P-", "L+", "DX", "D*", "<Z", "=Z", "SL",
-        "PS", "LL+", "LP+", "LP<Z", "LP+S", "LLL", "P=Z", "L-", "VL", "DO",
-    };
     private static int round;
 
     public static void main(String[] args) {
@@ -36,7 +31,7 @@ public final class ModelTest {
 
     private static int letterFor(Random random, boolean growing) {
         return growing && random.nextInt(3) > 0 ? "PLDP".charAt(random.nextInt(4))
-            : LETTERS.charAt(random.nextInt(LETTERS.length()));
+            : Checks.LETTERS.charAt(random.nextInt(Checks.LETTERS.length()));
     }
 
     private static int numberFor(Random random, int letter, int size) {
@@ -57,7 +52,7 @@ public final class ModelTest {
         int size = random.nextInt(random.nextInt(4) == 0 ? 80 : 25);
         boolean growing = random.nextBoolean();
         while (model.words.size() < size) {
-            String row = random.nextInt(3) == 0 ? ROWS[random.nextInt(20)] : "" + (char) letterFor(random, growing);
+            String row = random.nextInt(3) == 0 ? Checks.ROWS[random.nextInt(20)] : "" + (char) letterFor(random, growing);
             for (int k = 0; k < row.length() && model.words.size() < 80; k++) {
                 int n = numberFor(random, row.charAt(k), size);
                 CHECKS.due(round + ": add", x.add(row.charAt(k), n), model.words.size());
@@ -157,7 +152,7 @@ public final class ModelTest {
             for (int place = 0; place < rows.length; fusedSize++) {
                 int row = rowAt(text.toString(), place);
                 rows[place] = row;
-                int length = row < 0 ? 1 : ROWS[row].length();
+                int length = row < 0 ? 1 : Checks.ROWS[row].length();
                 java.util.Arrays.fill(rows, place + 1, place + length, -2);
                 place += length;
             }
@@ -166,7 +161,7 @@ public final class ModelTest {
         private int rowAt(String text, int place) {
             for (int length = 4; length > 1; length--) {
                 for (int row = 0; row < 20; row++) {
-                    if (ROWS[row].length() == length && text.startsWith(ROWS[row], place)
+                    if (Checks.ROWS[row].length() == length && text.startsWith(Checks.ROWS[row], place)
                         && !anyTarget(place + 1, place + length)) {
                         return row;
                     }
@@ -203,7 +198,7 @@ public final class ModelTest {
                         return steps;
                     }
                     int row = fused ? rows[place] : -1;
-                    for (int k = row < 0 ? 1 : ROWS[row].length(); k > 0 && state == 0; k--) {
+                    for (int k = row < 0 ? 1 : Checks.ROWS[row].length(); k > 0 && state == 0; k--) {
                         one((char) words.get(place)[0], words.get(place)[1]);
                     }
                 }

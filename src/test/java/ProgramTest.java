@@ -3,7 +3,6 @@ import java.util.NoSuchElementException;
 /** Promises 2 (add), 3 (change) and 4 (clear). */
 public final class ProgramTest {
     private static final Checks CHECKS = new Checks();
-    private static final String LETTERS = "PLS+-*/<=DXOVJZCRH";
 
     public static void main(String[] args) {
         everyIntAsLetter();
@@ -23,7 +22,7 @@ public final class ProgramTest {
         int place = 0;
         for (int letter = -300; letter < 70000; letter++) {
             int one = letter;
-            if (letter >= 0 && letter < 128 && LETTERS.indexOf(letter) >= 0) {
+            if (letter >= 0 && letter < 128 && Checks.LETTERS.indexOf(letter) >= 0) {
                 CHECKS.due("add(" + one + ", 0)", x.add(one, 0), place);
                 CHECKS.due("look(" + place + ", 0)", x.look(place, 0), one);
                 place++;
@@ -39,7 +38,7 @@ public final class ProgramTest {
 
     private static void numbers() {
         int[] odd = {-1, 8, 80, Integer.MIN_VALUE, Integer.MAX_VALUE};
-        for (char letter : LETTERS.toCharArray()) {
+        for (char letter : Checks.LETTERS.toCharArray()) {
             FusedEngine x = new FusedEngine();
             for (int n = 0; n < 8; n++) {
                 CHECKS.due("add(" + letter + ", " + n + ")", x.add(letter, n), n);

@@ -14,15 +14,8 @@ public final class StateTest {
         CHECKS.end();
     }
 
-    private static FusedEngine ran(String text) {
-        FusedEngine x = Checks.fusedOf(text);
-        x.run(Checks.PLAIN, 3000);
-        x.run(Checks.FUSED, 3000);
-        return x;
-    }
-
     private static void about() {
-        FusedEngine x = ran("P1 P2 P3 O C6 H C8 H P4 D O O H");
+        FusedEngine x = Checks.ranOf("P1 P2 P3 O C6 H C8 H P4 D O O H");
         for (boolean fused : Checks.BOTH) {
             CHECKS.dueAbout("about", x, fused, 12, 2, 2, 3, 5, 11);
             for (int what : new int[] {-1, 6, 7, Integer.MIN_VALUE, Integer.MAX_VALUE}) {
@@ -36,7 +29,7 @@ public final class StateTest {
     }
 
     private static void stack() {
-        FusedEngine x = ran("P5 P6 P7 V H");
+        FusedEngine x = Checks.ranOf("P5 P6 P7 V H");
         for (boolean fused : Checks.BOTH) {
             CHECKS.dueStack("stack", x, fused, 5, 6);
             // 7 was there, and is gone.
@@ -46,7 +39,7 @@ public final class StateTest {
                 CHECKS.dueThrow("stack(" + k + ")", NoSuchElementException.class, () -> x.stack(fused, k));
             }
         }
-        FusedEngine full = ran(Checks.times(39, "P1") + " P9");
+        FusedEngine full = Checks.ranOf(Checks.times(39, "P1") + " P9");
         for (boolean fused : Checks.BOTH) {
             CHECKS.due("stack(39)", full.stack(fused, 39), 9);
             CHECKS.dueThrow("stack(40)", NoSuchElementException.class, () -> full.stack(fused, 40));
@@ -58,7 +51,7 @@ public final class StateTest {
         for (int k = 0; k < 8; k++) {
             words.append('P').append(k * 11 + 1).append(" S").append(k).append(' ');
         }
-        FusedEngine x = ran(words + "H");
+        FusedEngine x = Checks.ranOf(words + "H");
         for (boolean fused : Checks.BOTH) {
             for (int k = 0; k < 8; k++) {
                 CHECKS.due("local(" + fused + ", " + k + ")", x.local(fused, k), k * 11 + 1);
@@ -71,7 +64,7 @@ public final class StateTest {
     }
 
     private static void out() {
-        FusedEngine x = ran("P5 O P-6 O P7 O H");
+        FusedEngine x = Checks.ranOf("P5 O P-6 O P7 O H");
         int[] want = {5, -6, 7};
         for (boolean fused : Checks.BOTH) {
             for (int k = 0; k < want.length; k++) {
