@@ -6,27 +6,42 @@ import java.util.Random;
 import java.util.Set;
 
 /**
- * Long rows of calls, made by a random source with a written seed, on the engine and on a second
- * one that is written straight from the document with lists and texts: all answers are the same,
- * and the machines have the same states wherever the fused one stands.
+ * Rows of calls, made by a random source with a written seed, on the engine and on a second one
+ * that is written straight from the document with lists and texts: all answers are the same, and
+ * the machines have the same states wherever the fused one stands.
  */
 public final class ModelTest {
     private static final Checks CHECKS = new Checks();
+    private static final int ROUNDS = 6000;
     private static int round;
 
     public static void main(String[] args) {
-        Random random = new Random(20261115);
-        for (round = 0; round < 6000; round++) {
-            FusedEngine x = new FusedEngine();
-            Model model = new Model();
-            for (int k = 0; k < 4; k++) {
-                write(random, x, model);
-                compareProgram(x, model);
-                runBoth(random, x, model);
-                compareWalk(x, model);
-            }
+        for (round = 0; round < ROUNDS; round++) {
+            // What is to be compared needs more calls than one object may be used for.
+            Pair pair = new Pair();
+            compareProgram(pair.x, pair.model, 0, 40);
+            pair = new Pair();
+            compareProgram(pair.x, pair.model, 40, 80);
+            pair = new Pair();
+            runBoth(pair.random, pair.x, pair.model);
+            pair = new Pair();
+            compareWalk(pair.random, pair.x, pair.model);
         }
         CHECKS.end();
+    }
+
+    /** An engine and a model with the same program, written twice over; the same for one round. */
+    private static final class Pair {
+        final Random random = new Random(20261115 + round * 0x9E3779B97F4A7C15L);
+        final CountedEngine x = new CountedEngine();
+        final Model model = new Model();
+
+        Pair() {
+            write(random, x, model);
+            x.run(true, random.nextInt(100));
+            x.run(false, random.nextInt(100));
+            write(random, x, model);
+        }
     }
 
     private static int letterFor(Random random, boolean growing) {
@@ -44,7 +59,7 @@ public final class ModelTest {
         return random.nextInt(12) == 0 ? random.nextInt(100) - 10 : random.nextInt(size + 1);
     }
 
-    private static void write(Random random, FusedEngine x, Model model) {
+    private static void write(Random random, CountedEngine x, Model model) {
         if (random.nextInt(2) == 0) {
             x.clear();
             model.words.clear();
@@ -66,31 +81,38 @@ public final class ModelTest {
             x.change(place, letter, n);
             model.words.set(place, new int[] {letter, n});
         }
-        model.refuse();
+        model.fuseAnew();
         CHECKS.due(round + ": fuse", x.fuse(), model.fusedSize);
     }
 
-    private static void compareProgram(FusedEngine x, Model model) {
-        for (int place = 0; place < model.words.size(); place++) {
+    private static void compareProgram(CountedEngine x, Model model, int from, int to) {
+        for (int place = from; place < Math.min(to, model.words.size()); place++) {
             CHECKS.due(round + ": letter at " + place, x.look(place, 0), model.words.get(place)[0]);
             CHECKS.due(round + ": N at " + place, x.look(place, 1), model.words.get(place)[1]);
             CHECKS.due(round + ": row at " + place, x.look(place, 2), model.rows[place]);
             CHECKS.due(round + ": target " + place, x.look(place, 3), model.targets.contains(place) ? 1 : 0);
         }
+        if (model.words.size() < to) {
+            CHECKS.dueThrow(round + ": look behind the last", NoSuchElementException.class,
+                () -> x.look(model.words.size(), 0));
+        }
     }
 
-    private static void runBoth(Random random, FusedEngine x, Model model) {
+    private static void runBoth(Random random, CountedEngine x, Model model) {
         Model.Twin[] twins = {model.new Twin(), model.new Twin()};
         for (int k = 0; k < 8; k++) {
             boolean fused = random.nextBoolean();
             int n = random.nextInt(3) == 0 ? random.nextInt(4000) - 10 : random.nextInt(20);
             Model.Twin twin = twins[fused ? 1 : 0];
             CHECKS.due(round + ": run(" + fused + ", " + n + ")", x.run(fused, n), twin.go(fused, n));
-            compareMachine(x, fused, twin);
+            CHECKS.due(round + ": about(" + fused + ", 4)", x.about(fused, 4), twin.state);
+        }
+        for (boolean fused : Checks.BOTH) {
+            compareMachine(x, fused, twins[fused ? 1 : 0]);
         }
     }
 
-    private static void compareMachine(FusedEngine x, boolean fused, Model.Twin twin) {
+    private static void compareMachine(CountedEngine x, boolean fused, Model.Twin twin) {
         String when = round + " (" + fused + ")";
         CHECKS.dueAbout(when, x, fused, twin.place, twin.stack.size(), twin.returns.size(), twin.out.size(),
             twin.state, twin.done);
@@ -105,11 +127,10 @@ public final class ModelTest {
             () -> x.out(fused, Math.min(60, twin.out.size())));
     }
 
-    /** Step by step: the plain machine, brought to as many instructions, has the fused one's state. */
-    private static void compareWalk(FusedEngine x, Model model) {
-        x.restart();
-        for (int k = 0; k < 40; k++) {
-            x.run(true, 1);
+    /** The plain machine, brought to as many instructions, has the fused one's state. */
+    private static void compareWalk(Random random, CountedEngine x, Model model) {
+        for (int k = 0; k < 3; k++) {
+            x.run(true, 1 + random.nextInt(20));
             x.run(false, x.about(true, 5) - x.about(false, 5));
             if (x.about(true, 4) != x.about(false, 4)) {
                 x.run(false, 1);
@@ -117,7 +138,8 @@ public final class ModelTest {
             for (int what = 0; what < 6; what++) {
                 CHECKS.due(round + ": same about " + what, x.about(true, what), x.about(false, what));
             }
-            for (int h = 0; h < x.about(true, 1); h++) {
+            int height = x.about(true, 1);
+            for (int h = 0; h < height; h++) {
                 CHECKS.due(round + ": same stack", x.stack(true, h), x.stack(false, h));
             }
             int place = x.about(true, 0);
@@ -134,7 +156,7 @@ public final class ModelTest {
         int[] rows;
         int fusedSize;
 
-        void refuse() {
+        void fuseAnew() {
             StringBuilder text = new StringBuilder();
             targets.clear();
             for (int place = 0; place < words.size(); place++) {
