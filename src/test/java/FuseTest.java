@@ -79,7 +79,8 @@ public final class FuseTest {
     }
 
     private static void rowsAndTargets() {
-        CHECKS.sentence("2 the row's number, if a fused instruction begins there, NONE if it stayed alone, -2 if it lies within one");
+        CHECKS.sentence("2 the row's number, if a fused instruction begins there, NONE if it stayed alone, "
+            + "-2 if it lies within one");
         CountedEngine x = Checks.fusedOf("L L L L P + S H J7");
         int[] rows = {15, -2, -2, 14, -2, -2, -2, FusedEngine.NONE, FusedEngine.NONE};
         for (int place = 0; place < rows.length; place++) {

@@ -77,7 +77,8 @@ public final class ProgramTest {
         }
         CHECKS.due("18 letters", x.add('H', 0), 18);
         // Those of which the lower bits, or the bits of a char, are a letter's.
-        for (int letter : new int[] {'P' + 256, 'P' - 256, 'P' + 65536, 'P' - 65536, 'L' + (1 << 24), -'P', FAR[0], FAR[1]}) {
+        int[] alike = {'P' + 256, 'P' - 256, 'P' + 65536, 'P' - 65536, 'L' + (1 << 24), -'P', FAR[0], FAR[1]};
+        for (int letter : alike) {
             CHECKS.dueThrow("add(" + letter + ", 0)", IllegalArgumentException.class, () -> x.add(letter, 0));
             CHECKS.dueThrow("change(0, " + letter + ", 0)", IllegalArgumentException.class, () -> x.change(0, letter, 0));
         }
@@ -165,7 +166,8 @@ public final class ProgramTest {
                 x.add('P', k);
             }
             for (int place : new int[] {-1, size, size + 1, 80, 81, FAR[0], FAR[1]}) {
-                CHECKS.dueThrow(size + ": change(" + place + ")", NoSuchElementException.class, () -> x.change(place, 'P', 0));
+                CHECKS.dueThrow(size + ": change(" + place + ")", NoSuchElementException.class,
+                    () -> x.change(place, 'P', 0));
             }
             if (size > 0) {
                 x.change(0, 'V', 0);

@@ -227,7 +227,8 @@ public final class RunTest {
     }
 
     private static void trapWithinRow() {
-        CHECKS.sentence("A fused machine stands at the place of its row's first instruction; after a trap at the place of the one that trapped.");
+        CHECKS.sentence("A fused machine stands at the place of its row's first instruction; "
+            + "after a trap at the place of the one that trapped.");
         CountedEngine first = Checks.fusedOf("D X");
         CHECKS.due("DX: run(true, 9)", first.run(Checks.FUSED, 9), 1);
         CHECKS.dueAbout("DX", first, Checks.FUSED, 0, 0, 0, 0, 1, 0);

@@ -58,7 +58,8 @@ public final class StateTest {
     }
 
     private static void done() {
-        CHECKS.sentence("how many instructions it has done, those within fused ones each (5; one that trapped is not counted)");
+        CHECKS.sentence("how many instructions it has done, those within fused ones each "
+            + "(5; one that trapped is not counted)");
         dueDone("H", 1);
         dueDone("V", 0);
         dueDone("P5 V V", 2);
