@@ -8,6 +8,7 @@ public final class FuseTest {
     public static void main(String[] args) {
         fuseRestarts();
         fuseAnswers();
+        fuseCountsWhatBegins();
         fuseAgain();
         letterAndNumber();
         rowsAndTargets();
@@ -48,6 +49,19 @@ public final class FuseTest {
         empty.fuse();
         CHECKS.due("the empty one counts as fused: run(true, 1)", empty.run(Checks.FUSED, 1), 0);
         CHECKS.due("the empty one counts as fused: about(true, 4)", empty.about(Checks.FUSED, 4), 4);
+    }
+
+    private static void fuseCountsWhatBegins() {
+        CHECKS.sentence("The fused program has fused instructions and those that stayed.");
+        for (String text : new String[] {"H", "L L L L", "D D O X D *", "L P + S L P < Z0 J6 V L P S", "C2 L L L - P = Z4 R"}) {
+            CountedEngine x = Checks.engineOf(text);
+            int count = x.fuse();
+            int begin = 0;
+            for (int place = 0; place < text.split(" ").length; place++) {
+                begin += x.look(place, 2) == -2 ? 0 : 1;
+            }
+            CHECKS.due(text + ": places where something begins", begin, count);
+        }
     }
 
     private static void fuseAgain() {

@@ -194,7 +194,8 @@ public final class ProgramTest {
     }
 
     private static void whichIsSaidFirst() {
-        CHECKS.sentence("IllegalArgumentException when ..; IllegalStateException when there are 80");
+        CHECKS.sentence("IllegalArgumentException when letter is none of those said, or for L and S n is not 0 .. 7; "
+            + "IllegalStateException when there are 80.");
         CountedEngine full = Checks.engineOf(Checks.times(80, "P1"));
         CHECKS.dueThrow("full and a wrong letter", IllegalArgumentException.class, () -> full.add('A', 1));
         CHECKS.dueThrow("full and a wrong local", IllegalArgumentException.class, () -> full.add('L', 8));

@@ -60,7 +60,7 @@ public final class RefusalTest {
     }
 
     private static void adds(State state) {
-        CHECKS.sentence("Throws, changing nothing: IllegalArgumentException .. IllegalStateException when there are 80");
+        CHECKS.sentence("Throws, changing nothing");
         for (int letter : new int[] {'A', 'p', 'Q', 0, -1, 256 + 'P', Integer.MIN_VALUE, Integer.MAX_VALUE}) {
             CHECKS.dueRefused(state.name + ": add(" + letter + ", 1)", ARGUMENT, state.made, x -> x.add(letter, 1));
         }
@@ -93,7 +93,8 @@ public final class RefusalTest {
     }
 
     private static void looks(State state) {
-        CHECKS.sentence("NoSuchElementException when there is no such place, for another what, and for 2 when ..");
+        CHECKS.sentence("NoSuchElementException when there is no such place, for another what, "
+            + "and for 2 when the program is not fused.");
         for (int place : new int[] {-1, state.size, Integer.MAX_VALUE}) {
             CHECKS.dueRefused(state.name + ": look(" + place + ", 0)", ELEMENT, state.made, x -> x.look(place, 0));
         }

@@ -23,7 +23,8 @@ public final class StateTest {
     }
 
     private static void everyAbout() {
-        CHECKS.sentence("Of the plain or the fused machine: its place (what 0), the height of its stack (1), ..");
+        CHECKS.sentence("Of the plain or the fused machine: its place (what 0), the height of its stack (1), "
+            + "how many return places it has (2), how many values were put out (3)");
         CountedEngine x = Checks.ranOf("P1 P2 P3 O C6 H C8 H P4 D O O H");
         for (boolean fused : Checks.BOTH) {
             CHECKS.dueAbout("about", x, fused, 12, 2, 2, 3, 5, 11);
